@@ -45,6 +45,7 @@ public final class PromisesTest {
         promise10HearRepliesAreKept();
         promise10HearWraps();
         promise11Serve();
+        nothingIsLeftOfOldPackets();
         promise12Turn();
         promise13Answer();
         promise14Peer();
@@ -60,6 +61,7 @@ public final class PromisesTest {
         promise17Rate();
         promise17PollAndCount();
         promise17Steps();
+        promise17StepFromARate();
         promise18And19SizeAndOut();
         Check.end("PromisesTest");
     }
@@ -671,6 +673,26 @@ public final class PromisesTest {
         }
     }
 
+    /** What OUT and the TAPE held before does not shine through. */
+    private static void nothingIsLeftOfOldPackets() {
+        TimeKeeper x = told(new int[] {4}, new long[] {0});
+        typePacket(x, 35, 255, 255, new int[] {-1, -1}, new long[] {-1, -1, -1});
+        for (int i = 12; i < 24; i++) {
+            x.put(i, 255);
+        }
+        x.serve();
+        x.request(1);
+        for (int i = 0; i < 40; i++) {
+            Check.same("byte " + i + " of a request behind a reply", x.out(i), i == 0 ? 35 : i == 2 ? x.about(POLL) : i == 3 ? 238 : 0);
+        }
+        x.answer(1, 1, 0, 0, 0, 8192, 0, 8192);
+        Check.same("an answer over another packet", x.hear(1), 0);
+        Check.same("its root numbers", x.peer(1, DISTANCE), 8192 + x.peer(1, DISPERSION) + 16384);
+        x.put(0, 35);
+        x.serve();
+        Check.same("its poll", x.out(2), 0);
+    }
+
     private static void promise12Turn() {
         TimeKeeper x = new TimeKeeper();
         x.type(1, 5);
@@ -950,6 +972,33 @@ public final class PromisesTest {
         TimeKeeper strata = told(new int[] {2, 2, 1, 3}, new long[] {0, 0, 0, 409600}, wide);
         chosenIs("strata", strata, 15, 15, 7);
         Check.same("the first one is of the least stratum", strata.about(2), 2);
+        rowClosesUp();
+    }
+
+    /** Two go, the first of the row among them: what is left must still be told by its own numbers. */
+    private static void rowClosesUp() {
+        long[] offsets = {409600, 8192, 0, -819200, 4096};
+        int[] strata = {1, 3, 4, 2, 5};
+        int[] roots = {1000, 1001, 1300, 1600, 2000};
+        TimeKeeper x = new TimeKeeper();
+        for (int i = 0; i < 8; i++) {
+            x.pass(1);
+            for (int peer = 0; peer < 5; peer++) {
+                long jump = peer == 1 && i < 7 ? 40960 : 0;
+                tell(x, peer, strata[peer], roots[peer], offsets[peer] + jump, 8192);
+            }
+        }
+        chosenIs("five, two apart", x, 31, 31, 22);
+        Check.same("THE STRATUM of those left", x.about(2), 4);
+        Check.same("THE JITTER is that of the first one left", x.about(1), 40960);
+        long sum = 0;
+        long weights = 0;
+        for (int peer : new int[] {1, 2, 4}) {
+            long w = (1L << 46) / x.peer(peer, DISTANCE);
+            sum += offsets[peer] / 4096 * w;
+            weights += w;
+        }
+        Check.same("THE OFFSET of those left", x.about(0), Math.floorDiv(sum, weights) * 4096);
     }
 
     private static void promise16WhenUpdatesCome() {
@@ -976,6 +1025,14 @@ public final class PromisesTest {
         tell(x, 0, 0);
         Check.same("an UPDATE behind peer 0", x.about(LED), 5);
 
+        TimeKeeper early = new TimeKeeper();
+        for (int i = 0; i < 4; i++) {
+            tell(early, 0, 0);
+        }
+        chosenIs("four tellings in second 0, of which the first alone brought an UPDATE", early, 0, 0, 0);
+        tell(early, 1, 0);
+        chosenIs("an UPDATE in second 0 behind a peer that none looked at", early, 1, 1, 1);
+
         TimeKeeper late = new TimeKeeper();
         tellFour(late, 0);
         for (int i = 0; i < 8; i++) {
@@ -988,19 +1045,19 @@ public final class PromisesTest {
         Check.same("led no more", late.about(LED), 1);
     }
 
-    /** Root dispersion takes DISTANCE up to its bound and just below it. */
+    /** Root numbers and the way take DISTANCE to its bound, and to one below it. */
     private static void promise16Candidates() {
-        for (int more = 0; more < 2; more++) {
+        for (int less = 0; less < 2; less++) {
             TimeKeeper x = new TimeKeeper();
-            int rootDispersion = (int) ((6442450944L - DISTANCE_OF_FOUR) / 65536) + more;
+            x.set(1);
             for (int i = 0; i < 4; i++) {
                 x.pass(i > 0 ? 1 : 0);
                 x.request(0);
-                x.answer(0, 1, 0, rootDispersion, 0, 8192, 0, 8192);
+                x.answer(0, 1, 1, 36862, 0, 22269 - less, 0, 22269 - less);
                 x.hear(0);
             }
-            Check.same("DISTANCE", x.peer(0, DISTANCE), DISTANCE_OF_FOUR + rootDispersion * 65536L);
-            chosenIs("a DISTANCE near its bound", x, 1 - more, 1 - more, 1 - more);
+            Check.same("DISTANCE", x.peer(0, DISTANCE), 6442450944L - less);
+            chosenIs("a DISTANCE near its bound", x, less, less, less);
         }
     }
 
@@ -1061,7 +1118,7 @@ public final class PromisesTest {
     private static void promise17Rate() {
         // FLOOR(o * u / 2^16), u from 1 s to more than 1024 s.
         long[][] cases = {{4096, 10, 0}, {-4096, 10, -1}, {4096, 16, 1}, {-4096, 16, -1}, {4096, 1024, 64}, {4096, 1025, 64},
-            {4096, 4000, 64}, {-4096, 1023, -64}, {131072000, 1000, 2000000}, {134217728, 1024, 2000000}, {-134217728, 1024, -2000000},
+            {4096, 4000, 64}, {-4096, 1023, -64}, {65536, 1023, 1023}, {65536, 1024, 1024}, {65536, 1025, 1024}, {131072000, 1000, 2000000}, {134217728, 1024, 2000000}, {-134217728, 1024, -2000000},
             {-131072000, 1000, -2000000}, {127795200, 1024, 1996800}};
         for (long[] c : cases) {
             TimeKeeper x = new TimeKeeper();
@@ -1159,6 +1216,26 @@ public final class PromisesTest {
             chosenIs("behind a step", x, 1, 1, 1);
             stepsAgain(x, big);
         }
+    }
+
+    private static void promise17StepFromARate() {
+        TimeKeeper x = new TimeKeeper();
+        tellFour(x, 4096 * 10000);
+        x.pass(16);
+        tell(x, 0, 4096 * 10000);
+        Check.same("RATE before the step", x.about(RATE), 10000);
+        long count = x.about(COUNT);
+        x.pass(300);
+        Check.holds("REST before the step", x.about(REST) != 0);
+        tell(x, 0, 1L << 30);
+        Check.same("a step", x.about(STEPS), 1);
+        Check.same("led by all", x.about(LED), 3);
+        Check.same("RATE is 0", x.about(RATE), 0);
+        Check.same("REST is 0", x.about(REST), 0);
+        Check.same("COUNT stays", x.about(COUNT), count);
+        long before = x.clock();
+        x.pass(10);
+        Check.same("the clock runs plainly", x.clock() - before, 10 * SECOND);
     }
 
     /** It was led at UPTIME 3. */
