@@ -1,7 +1,10 @@
 import java.util.Random;
 import java.util.function.LongSupplier;
 
-/** Random runs of up to 512 calls, the same on the program and on the model: every answer must be the same. */
+/**
+ * Random runs of some 512 calls, the same on the program and on the model: every answer must be the same.
+ * Looks at what a call left behind are not counted as calls: the program keeps no count that they could move.
+ */
 public final class ModelTest {
     private static final int RUNS = 1500;
     private static final int CALLS = 512;

@@ -283,7 +283,7 @@ public final class PromisesTest {
             long g = rest / 64 != 0 ? rest / 64 : rest;
             rest -= g;
             stamp += SECOND + g;
-            if (i < 450) {
+            if (i < 120) {
                 x.pass(1);
                 Check.same("REST after " + i, x.about(REST), rest);
                 Check.same("clock after " + i, x.clock(), stamp);
