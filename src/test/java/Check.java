@@ -2,23 +2,34 @@
 final class Check {
     private static int wrong = 0;
     private static int made = 0;
+    private static int sentences = 0;
+    private static String sentence = "";
 
     private Check() {
+    }
+
+    /** The checks that follow are of this sentence of the document, which is printed with what is wrong. */
+    static void sentence(String text) {
+        sentences++;
+        sentence = "\"" + text + "\": ";
+    }
+
+    private static void wrong(String text) {
+        wrong++;
+        System.out.println(sentence + text);
     }
 
     static void same(String what, long got, long due) {
         made++;
         if (got != due) {
-            wrong++;
-            System.out.println(what + " answered " + got + ", due is " + due);
+            wrong(what + " answered " + got + ", due is " + due);
         }
     }
 
     static void same(String what, String got, String due) {
         made++;
         if (!got.equals(due)) {
-            wrong++;
-            System.out.println(what + " answered " + got + ", due is " + due);
+            wrong(what + " answered " + got + ", due is " + due);
         }
     }
 
@@ -33,13 +44,11 @@ final class Check {
             call.run();
         } catch (RuntimeException e) {
             if (e.getClass() != due) {
-                wrong++;
-                System.out.println(what + " threw " + e.getClass() + ", due is " + due);
+                wrong(what + " threw " + e.getClass() + ", due is " + due);
             }
             return;
         }
-        wrong++;
-        System.out.println(what + " threw nothing, due is " + due);
+        wrong(what + " threw nothing, due is " + due);
     }
 
     static int wrongSoFar() {
@@ -47,7 +56,8 @@ final class Check {
     }
 
     static void end(String name) {
-        System.out.println(name + ": " + made + " checks, " + wrong + " wrong");
+        String of = sentences == 0 ? "" : " of " + sentences + " sentences";
+        System.out.println(name + ": " + made + " checks" + of + ", " + wrong + " wrong");
         if (wrong != 0) {
             System.exit(1);
         }

@@ -1,35 +1,7 @@
 import java.util.function.LongBinaryOperator;
 
 /** Promise by promise: ordinary inputs, edges and wrong inputs, with answers worked out by hand. */
-public final class PromisesTest {
-    private static final Class<IndexOutOfBoundsException> INDEX = IndexOutOfBoundsException.class;
-    private static final Class<IllegalArgumentException> ARGUMENT = IllegalArgumentException.class;
-    private static final Class<IllegalStateException> STATE = IllegalStateException.class;
-
-    private static final long SECOND = 1L << 32;
-    private static final long MOST = 1L << 36;
-    /** DISPERSION of four samples of delay 16384, taken at each of the last four seconds. */
-    private static final long DISPERSION_OF_FOUR = 8192 + 20202 + 18154 + 13103 + (MOST / 32 + MOST / 64 + MOST / 128 + MOST / 256);
-    private static final long DISTANCE_OF_FOUR = 8192 + DISPERSION_OF_FOUR + 16384;
-
-    private static final int SENT = 0;
-    private static final int LAST = 1;
-    private static final int OFFSET = 2;
-    private static final int DELAY = 3;
-    private static final int DISPERSION = 4;
-    private static final int JITTER = 5;
-    private static final int DISTANCE = 6;
-    private static final int SAMPLES = 7;
-    private static final int REACH = 8;
-    private static final int STRATUM = 9;
-
-    private static final int RATE = 5;
-    private static final int REST = 6;
-    private static final int POLL = 7;
-    private static final int COUNT = 8;
-    private static final int STEPS = 9;
-    private static final int LED = 10;
-
+public final class PromisesTest extends Runs {
     public static void main(String[] args) {
         promise1NewObject();
         promise2Type();
@@ -65,90 +37,6 @@ public final class PromisesTest {
         promise18And19SizeAndOut();
         Check.end("PromisesTest");
     }
-
-    // ---- what the runs are made of
-
-    /** One telling that is taken: its offset is exact, its delay 2 * way. */
-    private static void tell(TimeKeeper x, int peer, int stratum, int rootDispersion, long offset, long way) {
-        x.request(peer);
-        x.answer(peer, stratum, 0, rootDispersion, offset, way, 0, way);
-        Check.same("hear of a telling of peer " + peer, x.hear(peer), 0);
-    }
-
-    private static void tell(TimeKeeper x, int peer, int stratum, long offset, long way) {
-        tell(x, peer, stratum, 0, offset, way);
-    }
-
-    private static void tell(TimeKeeper x, int peer, long offset) {
-        tell(x, peer, 1, offset, 8192);
-    }
-
-    /** Four tellings, a second between them: as many as make a candidate. */
-    private static void tellFour(TimeKeeper x, long offset) {
-        for (int i = 0; i < 4; i++) {
-            if (i > 0) {
-                x.pass(1);
-            }
-            tell(x, 0, offset);
-        }
-    }
-
-    /** Eight tellings of each of these peers, one of each in every second, the later peers after the earlier. */
-    private static TimeKeeper told(int[] strata, long[] offsets) {
-        return told(strata, offsets, 0);
-    }
-
-    /** A root dispersion makes the intervals wide. */
-    private static TimeKeeper told(int[] strata, long[] offsets, int rootDispersion) {
-        TimeKeeper x = new TimeKeeper();
-        for (int i = 0; i < 8; i++) {
-            x.pass(1);
-            for (int peer = 0; peer < offsets.length; peer++) {
-                tell(x, peer, strata[peer], rootDispersion, offsets[peer], 8192);
-            }
-        }
-        return x;
-    }
-
-    private static void typeStamp(TimeKeeper x, long stamp) {
-        x.type(Long.reverseBytes(stamp), 8);
-    }
-
-    /** A packet of 48 bytes on the TAPE. */
-    private static void typePacket(TimeKeeper x, int first, int stratum, int poll, int[] roots, long[] stamps) {
-        x.wipe();
-        x.type(first | stratum << 8 | poll << 16 | 0xEE << 24, 4);
-        x.type(Integer.reverseBytes(roots[0]), 4);
-        x.type(Integer.reverseBytes(roots[1]), 4);
-        x.type(0, 8);
-        x.type(0, 4);
-        for (long stamp : stamps) {
-            typeStamp(x, stamp);
-        }
-    }
-
-    private static long outStamp(TimeKeeper x, int from) {
-        long v = 0;
-        for (int i = from; i < from + 8; i++) {
-            v = v << 8 | x.out(i);
-        }
-        return v;
-    }
-
-    private static void outIs(String what, TimeKeeper x, int... bytes) {
-        Check.same(what + " size", x.size(), bytes.length);
-        for (int i = 0; i < bytes.length && i < x.size(); i++) {
-            Check.same(what + " byte " + i, x.out(i), bytes[i]);
-        }
-    }
-
-    /** What the TAPE holds where a request has its transmit stamp, seen by serving it. */
-    private static long servedOrigin(TimeKeeper x) {
-        Check.holds("serve", x.serve());
-        return outStamp(x, 24);
-    }
-
-    // ---- the promises
 
     private static void promise1NewObject() {
         TimeKeeper x = new TimeKeeper();
@@ -437,12 +325,6 @@ public final class PromisesTest {
         Check.same(what + " changes nothing", x.peer(0, REACH), reach);
         Check.same(what + " changes nothing", x.peer(0, STRATUM), stratum);
         Check.same(what + " changes nothing", x.peer(0, SAMPLES), samples);
-    }
-
-    private static void putNumber(TimeKeeper x, int from, int bytes, long v) {
-        for (int i = 0; i < bytes; i++) {
-            x.put(from + i, (int) (v >>> (8 * (bytes - 1 - i))) & 255);
-        }
     }
 
     private static void promise10HearTests() {
@@ -924,12 +806,6 @@ public final class PromisesTest {
         Check.refused("a ninth sample", INDEX, () -> x.sample(0, 8, 0));
     }
 
-    private static void chosenIs(String what, TimeKeeper x, int candidates, int survivors, int left) {
-        Check.same(what + ": candidates", x.chosen(0), candidates);
-        Check.same(what + ": survivors", x.chosen(1), survivors);
-        Check.same(what + ": left", x.chosen(2), left);
-    }
-
     private static void promise16ChosenIntervals() {
         long far = 1L << 34;
         int[] ones = {1, 1, 1, 1, 1};
@@ -1138,13 +1014,6 @@ public final class PromisesTest {
         x.pass(16);
         tell(x, 0, -4096 * 30);
         Check.same("RATE grows", x.about(RATE), 70);
-    }
-
-    private static void led(TimeKeeper x, long offset, int times) {
-        for (int i = 0; i < times; i++) {
-            x.pass(1);
-            tell(x, 0, offset);
-        }
     }
 
     private static void promise17PollAndCount() {
