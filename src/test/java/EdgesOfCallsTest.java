@@ -14,6 +14,7 @@ public final class EdgesOfCallsTest extends Runs {
         clockAndSet();
         drift();
         request();
+        allOthersAreZero();
         hear();
         serve();
         turn();
@@ -251,10 +252,43 @@ public final class EdgesOfCallsTest extends Runs {
             Check.same("SENT", x.peer(peer, SENT), 1000 + peer);
         }
         Check.same("the TAPE stays", x.type(0, 1), 4);
+        TimeKeeper known = told(new int[] {3}, new long[] {0});
+        Check.same("THE STRATUM", known.about(2), 4);
+        Check.same("POLL", known.about(POLL), 6);
+        known.request(1);
+        Check.same("our STRATUM is not told", known.out(1), 0);
+        led(known, 0, 1);
+        Check.same("POLL", known.about(POLL), 7);
+        known.request(1);
+        Check.same("POLL is told", known.out(2), 7);
         x.set(7);
         x.request(3);
         Check.same("SENT of the latest request", x.peer(3, SENT), 7);
         Check.same("SENT of another", x.peer(4, SENT), 1004);
+    }
+
+    private static void allOthersAreZero() {
+        Check.sentence("all others 0 (of a request, of our reply, of an answer)");
+        TimeKeeper x = new TimeKeeper();
+        x.set(-1);
+        for (int i = 0; i < 6; i++) {
+            x.type(-1, 8);
+        }
+        x.put(0, 35);
+        Check.holds("serve", x.serve());
+        for (int i = 1; i < 24; i++) {
+            Check.same("byte " + i + " of our reply", x.out(i), i == 2 ? 255 : i == 3 ? 238 : 0);
+        }
+        x.request(0);
+        for (int i = 1; i < 40; i++) {
+            Check.same("byte " + i + " of a request behind it", x.out(i), i == 2 ? 6 : i == 3 ? 238 : 0);
+        }
+        x.answer(0, 1, 0, 0, 5, 8192, 0, 8192);
+        Check.same("hear of an answer over another TAPE", x.hear(0), 0);
+        Check.same("its root numbers", x.peer(0, DISTANCE), 8192 + x.peer(0, DISPERSION) + 16384);
+        x.put(0, 35);
+        x.serve();
+        Check.same("its poll", x.out(2), 0);
     }
 
     private static void hear() {
@@ -305,6 +339,11 @@ public final class EdgesOfCallsTest extends Runs {
             Check.holds("serve", x.serve());
             Check.same("byte 0 behind stratum " + stratum, x.out(0), stratum == 15 ? 192 + 36 : 36);
             Check.same("byte 1 behind stratum " + stratum, x.out(1), stratum == 15 ? 0 : stratum + 1);
+            for (int leap = 1; leap < 4; leap++) {
+                x.put(0, 64 * leap + 35);
+                x.serve();
+                Check.same("byte 0 to a request of leap " + leap, x.out(0), stratum == 15 ? 192 + 36 : 36);
+            }
         }
         TimeKeeper none = new TimeKeeper();
         for (int i = 0; i < 3; i++) {
@@ -349,6 +388,9 @@ public final class EdgesOfCallsTest extends Runs {
             Check.same("type behind an empty OUT", x.type(0, 1), 1);
             TimeKeeper y = withTapeOf(bytes);
             y.set(0x0102030405060708L);
+            y.request(0);
+            y.turn();
+            Check.same("the TAPE is the request", servedOrigin(y), 0x0102030405060708L);
             y.request(0);
             y.turn();
             y.put(47, 9);
@@ -550,12 +592,10 @@ public final class EdgesOfCallsTest extends Runs {
         Check.sentence("of the latest UPDATE that had survivors");
         // Both become candidates in one second, before any UPDATE had survivors.
         TimeKeeper apart = new TimeKeeper();
-        for (int i = 0; i < 3; i++) {
+        for (int i = 0; i < 4; i++) {
             tell(apart, 0, 0);
             tell(apart, 1, FAR);
         }
-        tell(apart, 0, 0);
-        tell(apart, 1, FAR);
         apart.pass(1);
         tell(apart, 1, FAR);
         chosenIs("two apart", apart, 3, 0, 0);

@@ -21,6 +21,7 @@ public final class EdgesOfTermsTest extends Runs {
         samples();
         dispersions();
         jitterAndDistance();
+        firstOneTells();
         whenUpdatesCome();
         candidates();
         howManyMayBeWrong();
@@ -52,9 +53,9 @@ public final class EdgesOfTermsTest extends Runs {
         TimeKeeper least = at(Long.MAX_VALUE - SECOND + 1);
         least.pass(1);
         Check.same("one part behind the greatest stamp", least.clock(), Long.MIN_VALUE);
-        TimeKeeper long_ = at(Long.MAX_VALUE);
-        long_.pass(4096);
-        Check.same("4096 seconds behind the greatest stamp", long_.clock(), Long.MAX_VALUE + 4096 * SECOND);
+        TimeKeeper far = at(Long.MAX_VALUE);
+        far.pass(4096);
+        Check.same("4096 seconds behind the greatest stamp", far.clock(), Long.MAX_VALUE + 4096 * SECOND);
         TimeKeeper zero = at(-SECOND);
         zero.pass(1);
         Check.same("from below 0 to 0", zero.clock(), 0);
@@ -198,6 +199,19 @@ public final class EdgesOfTermsTest extends Runs {
                 rest = next;
             }
         }
+        Check.sentence("A SECOND: the clock grows by 2^32 + DRIFT + RATE + g, REST shrinks by g");
+        for (int sign = -1; sign <= 1; sign += 2) {
+            TimeKeeper x = new TimeKeeper();
+            tellFour(x, 0);
+            x.pass(16);
+            tell(x, 0, sign * 4096 * 128);
+            Check.same("RATE", x.about(RATE), sign * 128);
+            x.drift(-sign * 33);
+            long before = x.clock();
+            x.pass(1);
+            Check.same("a SECOND", x.clock() - before, SECOND - sign * 33 + sign * 128 + sign * 8192);
+            Check.same("REST", x.about(REST), sign * (4096 * 128 - 8192));
+        }
         Check.sentence("It has a DRIFT (parts each second, -2000000 .. 2000000, 0 at first), a RATE (likewise, 0 at first)");
         TimeKeeper x = new TimeKeeper();
         x.drift(2000000);
@@ -322,7 +336,8 @@ public final class EdgesOfTermsTest extends Runs {
         }
         Check.sentence("8 the offset's size is 2^40 or more");
         long bound = 1L << 41;
-        long[][] sums = {{bound - 1, 0}, {bound, 8}, {bound + 1, 8}, {2 - bound, 0}, {1 - bound, 8}, {-bound, 8}, {-bound - 1, 8}};
+        long[][] sums = {{bound - 1, 0}, {bound, 8}, {bound + 1, 8}, {bound + 2, 8}, {1L << 60, 8},
+            {2 - bound, 0}, {1 - bound, 8}, {-bound, 8}, {-bound - 1, 8}, {-(1L << 60), 8}};
         for (long[] sum : sums) {
             TimeKeeper x = withReply();
             putNumber(x, 40, 8, x.clock() + sum[0] - 8192);
@@ -526,6 +541,22 @@ public final class EdgesOfTermsTest extends Runs {
         }
     }
 
+    /** The FIRST one is the earlier here: its OFFSET and DELAY count, of a ROOT DELAY and ROOT DISPERSION told later. */
+    private static void firstOneTells() {
+        Check.sentence("The FIRST one tells the peer's OFFSET and DELAY");
+        TimeKeeper x = at(1L << 41);
+        x.request(0);
+        x.answer(0, 1, 5, 6, 4096, 9000, 0, 9000);
+        x.hear(0);
+        x.request(0);
+        x.answer(0, 1, 7, 8, 4096, 20000, 0, 20000);
+        x.hear(0);
+        Check.same("OFFSET", x.peer(0, OFFSET), 4096);
+        Check.same("DELAY", x.peer(0, DELAY), 18000);
+        long due = (7 * 65536 + 18000) / 2 + 8 * 65536 + x.peer(0, DISPERSION) + 16384;
+        Check.same("DISTANCE", x.peer(0, DISTANCE), due);
+    }
+
     // ---- updates
 
     private static void whenUpdatesCome() {
@@ -577,16 +608,23 @@ public final class EdgesOfTermsTest extends Runs {
         tell(x, 0, 1, 0, 8192);
         for (int second = 1; second <= 7; second++) {
             x.pass(1);
-            tell(x, 0, 1, 0, second == 3 ? 8500 : 9000);
+            tell(x, 0, 1, 0, second == 3 ? 8500 : second == 5 ? 8600 : 9000);
             chosenIs("as long as the oldest is FIRST", x, 0, 0, 0);
         }
         x.pass(1);
         tell(x, 0, 1, 0, 9000);
         chosenIs("when the oldest went", x, 1, 1, 1);
         Check.same("led when the oldest went", x.about(LED), 1);
+        // What it looked at is of second 3, though the sample behind which it came is of second 8.
+        for (int second = 9; second <= 10; second++) {
+            x.pass(1);
+            tell(x, 0, 1, 0, 9000);
+            Check.same("led as long as the next is FIRST", x.about(LED), 1);
+        }
         x.pass(1);
         tell(x, 0, 1, 0, 9000);
-        Check.same("led as long as the next is FIRST", x.about(LED), 1);
+        Check.same("FIRST is that of second 5", x.peer(0, DELAY), 17200);
+        Check.same("led when the next went too", x.about(LED), 2);
 
         TimeKeeper same = new TimeKeeper();
         tell(same, 0, 1, 0, 8192);
@@ -661,6 +699,12 @@ public final class EdgesOfTermsTest extends Runs {
         TimeKeeper two = told(ONES, new long[] {0, 0, NEAR + 10});
         chosenIs("two of three that meet", two, 7, 3, 3);
         endsAre("two of three that meet", two, -NEAR, NEAR);
+        // One end of all three is the same, and lies in more intervals than it needs to; the third one's offset is outside.
+        for (int sign = -1; sign <= 1; sign += 2) {
+            TimeKeeper common = toldWide(ONES, new long[] {0, 0, sign * 2 * ROOT_GRAIN}, new int[] {0, 0, 2});
+            chosenIs("a common end", common, 7, 3, 3);
+            endsAre("a common end", common, -NEAR, NEAR);
+        }
         Check.sentence("Without any, nothing more is done");
         TimeKeeper none = told(ONES, new long[] {8192, FAR});
         chosenIs("one against one", none, 3, 0, 0);
@@ -777,14 +821,29 @@ public final class EdgesOfTermsTest extends Runs {
         }
         long[] second = {0, 40960, 0, 0};
         chosenIs("s below all JITTER", toldUneasily(ONES, second, wide, new long[] {45056, 45056, 45056, 45056}), 15, 15, 15);
-        chosenIs("s at the least JITTER", toldUneasily(ONES, second, wide, new long[] {45056, 45056, 45056, 40960}), 15, 15, 13);
-        chosenIs("s above the least JITTER", toldUneasily(ONES, second, wide, new long[] {45056, 45056, 45056, 36864}), 15, 15, 13);
+        for (int least = 0; least < 4; least++) {
+            // Whichever place of the row has it.
+            long[] jitters = {45056, 45056, 45056, 45056};
+            int[] strata = {1, 2, 3, 4};
+            jitters[least] = 40960;
+            chosenIs("s at the least JITTER", toldUneasily(strata, second, wide, jitters), 15, 15, 13);
+            jitters[least] = 36864;
+            chosenIs("s above the least JITTER", toldUneasily(strata, second, wide, jitters), 15, 15, 13);
+        }
         // Once the fifth one has gone, its JITTER is none of a survivor.
         TimeKeeper gone = toldUneasily(ONES, new long[] {0, 40960, 0, 0, 819200}, wide, new long[] {204800, 204800, 204800, 204800, 0});
         chosenIs("the least JITTER went", gone, 31, 31, 15);
     }
 
     private static void whatIsConcluded() {
+        Check.sentence("With w = 2^46 / DISTANCE of each survivor");
+        // 10922 and 17895: what is cut off from them takes the mean of 0 and 122070 from 75802.4 to 75803.9.
+        TimeKeeper weighed = toldWide(ONES, new long[] {0, 500000000}, new int[] {98302, 60000});
+        chosenIs("two of great DISTANCE", weighed, 3, 3, 3);
+        Check.same("THE OFFSET of two of great DISTANCE", weighed.about(0), 75803 * 4096);
+        TimeKeeper beside = toldWide(ONES, new long[] {1L << 36, 500000000, 0}, new int[] {98302, 60000, 98302});
+        chosenIs("the same two beside one that is wrong", beside, 7, 6, 6);
+        Check.same("THE OFFSET of the same two", beside.about(0), 75803 * 4096);
         Check.sentence("THE JITTER the greater of the first one's and the SPREAD");
         for (int grains = 0; grains < 10; grains++) {
             TimeKeeper x = told(ONES, new long[] {0, 2 * grains * 4096});
@@ -848,12 +907,14 @@ public final class EdgesOfTermsTest extends Runs {
         Check.same("steps at UPTIME 300", x.about(STEPS), 2);
     }
 
-    /** Led by little at UPTIME 3 and 19, then asked to step. */
+    /** Led by little at UPTIME 3 and 19, there also behind two other peers, then asked to step. */
     private static void stepsAfter(int seconds, long offset) {
         TimeKeeper x = at(1L << 41);
         tellFour(x, 4096 * 1000);
         x.pass(16);
         tell(x, 0, 4096 * 1000);
+        tell(x, 3, 7, 0, 8192);
+        tell(x, 4, 7, 0, 8192);
         x.request(5);
         x.pass(seconds);
         long asked = x.peer(5, SENT);
@@ -867,12 +928,16 @@ public final class EdgesOfTermsTest extends Runs {
         boolean due = seconds >= 300;
         String what = " after " + seconds;
         Check.same("steps" + what, x.about(STEPS), due ? 1 : 0);
-        Check.same("led" + what, x.about(LED), due ? 3 : 2);
+        Check.same("led" + what, x.about(LED), due ? 5 : 4);
         Check.same("RATE" + what, x.about(RATE), due ? 0 : 1000);
         Check.same("REST" + what, x.about(REST), due ? 0 : rest);
-        Check.same("COUNT" + what, x.about(COUNT), -24);
-        Check.same("POLL" + what, x.about(POLL), 6);
+        Check.same("COUNT" + what, x.about(COUNT), -10);
+        Check.same("POLL" + what, x.about(POLL), 5);
         Check.same("samples" + what, x.peer(0, SAMPLES), due ? 0 : 6);
+        Check.same("samples of another peer" + what, x.peer(3, SAMPLES), due ? 0 : 1);
+        Check.same("STRATUM" + what, x.peer(3, STRATUM), 7);
+        Check.same("REACH" + what, x.peer(3, REACH), 1);
+        Check.same("LAST" + what, x.peer(0, LAST), before - 8192 + offset);
         Check.same("SENT" + what, x.peer(5, SENT), due ? 0 : asked);
         Check.same("the clock" + what, x.clock() - before, due ? offset : 0);
         // Whether it was led then shows in u.
@@ -882,9 +947,9 @@ public final class EdgesOfTermsTest extends Runs {
             x.pass(1);
         }
         tell(x, 0, 4096 * 160);
-        Check.same("led again" + what, x.about(LED), due ? 4 : 6);
+        Check.same("led again" + what, x.about(LED), due ? 6 : 8);
         if (due) {
-            Check.same("RATE by u since the step", x.about(RATE), 4096 * 160 * 4 / 65536);
+            Check.same("RATE by u since the step", x.about(RATE), 4096 * 160 * 4 / 16384);
         }
     }
 
@@ -905,6 +970,23 @@ public final class EdgesOfTermsTest extends Runs {
         for (long[] floor : floors) {
             Check.same("RATE by " + floor[0] + " * " + floor[1], rateAfter((int) floor[1], floor[0]), floor[2]);
         }
+        TimeKeeper changing = new TimeKeeper();
+        tellFour(changing, 61440);
+        led(changing, 61440, 4);
+        Check.same("RATE of less than a part", changing.about(RATE), 0);
+        changing.pass(64);
+        tell(changing, 0, 61440);
+        Check.same("POLL that changes", changing.about(POLL), 7);
+        Check.same("RATE by the POLL of before", changing.about(RATE), 60);
+        Check.sentence("REST becomes o");
+        TimeKeeper again = new TimeKeeper();
+        tellFour(again, 4096 * 100);
+        again.pass(1);
+        tell(again, 0, 4096 * 50);
+        Check.same("REST is no sum", again.about(REST), 4096 * 50);
+        again.pass(1);
+        tell(again, 0, 0);
+        Check.same("REST of THE OFFSET 0", again.about(REST), 0);
         Check.sentence("but not beyond -2000000 .. 2000000");
         long[][] ends = {{131067904, 1999937}, {131072000, 2000000}, {131076096, 2000000}, {549752832, 2000000},
             {-131067904, -1999938}, {-131072000, -2000000}, {-131076096, -2000000}, {-549752832, -2000000}};
@@ -949,6 +1031,8 @@ public final class EdgesOfTermsTest extends Runs {
         int[][] calm = {{6, 6}, {6, 12}, {6, 18}, {6, 24}, {6, 30}, {7, 0}, {7, 7}, {7, 14}, {7, 21}, {7, 28}, {8, 0}, {8, 8}, {8, 16}, {8, 24},
             {9, 0}, {9, 9}, {9, 18}, {9, 27}, {10, 0}, {10, 10}, {10, 20}, {10, 30}, {10, 0}, {10, 10}, {10, 20}, {10, 30}, {10, 0}};
         pollsAre(up, 0, calm);
+        up.request(1);
+        Check.same("POLL 10 in a request", up.out(2), 10);
         Check.same("RATE at POLL 10 before", up.about(RATE), 0);
         up.pass(64);
         tell(up, 0, 16 * 4096 - 4096);
@@ -962,6 +1046,8 @@ public final class EdgesOfTermsTest extends Runs {
             TimeKeeper down = new TimeKeeper();
             tellFour(down, sign * 65536);
             pollsAre(down, sign * 65536, uneasy);
+            down.request(1);
+            Check.same("POLL 4 in a request", down.out(2), 4);
             long before = down.about(RATE);
             down.pass(2);
             tell(down, 0, sign * 65536);
