@@ -844,6 +844,13 @@ public final class EdgesOfTermsTest extends Runs {
         TimeKeeper beside = toldWide(ONES, new long[] {1L << 36, 500000000, 0}, new int[] {98302, 60000, 98302});
         chosenIs("the same two beside one that is wrong", beside, 7, 6, 6);
         Check.same("THE OFFSET of the same two", beside.about(0), 75803 * 4096);
+        // 17895 / 28817 of each: one part of 28817 below a whole number, none, and one above it.
+        long[][] means = {{810, 502}, {28817, 17895}, {28007, 17392}, {-28007, -17393}, {-28817, -17895}, {-810, -503}};
+        for (long[] grain : means) {
+            TimeKeeper x = toldWide(ONES, new long[] {0, grain[0] * 4096}, new int[] {98302, 60000});
+            chosenIs("two of great DISTANCE", x, 3, 3, 3);
+            Check.same("THE OFFSET of 0 and " + grain[0], x.about(0), grain[1] * 4096);
+        }
         Check.sentence("THE JITTER the greater of the first one's and the SPREAD");
         for (int grains = 0; grains < 10; grains++) {
             TimeKeeper x = told(ONES, new long[] {0, 2 * grains * 4096});
